@@ -13,14 +13,16 @@ public final class ModelTest {
     private final RobotAisles due = new RobotAisles();
     private final Model model = new Model();
     private final List<String> told = new ArrayList<>();
+    private final boolean isBusy;
     private int calls;
 
     private ModelTest(long seed) {
         random = new Random(seed);
+        isBusy = seed % 2 == 1;
     }
 
     public static void main(String[] args) {
-        int runs = args.length > 0 ? Integer.parseInt(args[0]) : 1500;
+        int runs = args.length > 0 ? Integer.parseInt(args[0]) : 3000;
         int wrong = 0;
         for (int seed = 0; seed < runs && wrong < 3; seed++) {
             String fault = new ModelTest(seed).run();
@@ -38,6 +40,11 @@ public final class ModelTest {
         boolean isLayoutFirst = random.nextInt(10) > 0;
         if (isLayoutFirst && !text(goodText())) {
             return String.join("\n", told);
+        }
+        for (int i = 0; isBusy && i < 8; i++) {
+            if (!same("add", cell(), 20 + random.nextInt(80)) || !same("order", random.nextInt(60), floor(), lineOrNone(), -1)) {
+                return String.join("\n", told);
+            }
         }
         while (calls < CALLS) {
             if (!step()) {
@@ -67,14 +74,24 @@ public final class ModelTest {
         return same("layout") && same("faultPosition");
     }
 
+    private static final String[] MAZES = {
+        "......../.######./......../.######./......../.#####+@", "..#...@./.#..#.#./...#..#./.##.##../....#..@/+.#...#.",
+        "........@", "...+/.##./...@", "..../#.##/@...", ".......", "....../.####./......", "...#..../.#.#.##./.#...#+@",
+        "......./.#.#.#./......./.#.#.#./......./.+.@.+."
+    };
+
     private String goodText() {
+        if (random.nextInt(4) == 0) {
+            String maze = MAZES[random.nextInt(MAZES.length)];
+            return maze.length() > 8 && maze.indexOf('/') < 0 ? maze.substring(1) : maze;
+        }
         int rows = 1 + random.nextInt(6);
         int columns = 2 + random.nextInt(7);
         if (random.nextInt(3) == 0) {
             rows = 1 + random.nextInt(3);
             columns = 2 + random.nextInt(3);
         }
-        String signs = new String[] {"....+@", ".....#+@", ".", "..........#@", "...##+@", ".+@"}[random.nextInt(6)];
+        String signs = new String[] {"....+@", ".....#+@", ".", "..........#@", "...##+@", ".+@", "........@", "............@+"}[random.nextInt(8)];
         StringBuilder text = new StringBuilder();
         for (int r = 0; r < rows; r++) {
             text.append(r > 0 ? "/" : "");
@@ -121,6 +138,26 @@ public final class ModelTest {
         return oneOf(model.account(0) * model.account(1));
     }
 
+    private int closedCell() {
+        for (int cell = 0; random.nextInt(5) > 0 && cell < model.account(0) * model.account(1); cell++) {
+            if (model.letter(cell) == 'x') {
+                return cell;
+            }
+        }
+        return cell();
+    }
+
+    private int floor() {
+        int cell = cell();
+        for (int tries = 0; tries < 5 && cell >= 0 && cell < model.account(0) * model.account(1); tries++) {
+            if (model.cell(cell, 0) == 0) {
+                return cell;
+            }
+            cell = cell();
+        }
+        return cell;
+    }
+
     private int robot() {
         return oneOf(model.account(2));
     }
@@ -130,7 +167,7 @@ public final class ModelTest {
     }
 
     private int lineOrNone() {
-        return random.nextInt(3) == 0 ? -1 : cell();
+        return random.nextInt(3) == 0 ? -1 : random.nextInt(8) == 0 ? cell() : floor();
     }
 
     /** The cell in which a plan would help the order of the robot, if there is one. */
@@ -152,13 +189,47 @@ public final class ModelTest {
         return cell();
     }
 
+    /** Robots get orders and go on with them, as a warehouse that works does. */
+    private boolean work() {
+        for (int robot = 0; robot < model.account(2); robot++) {
+            if (random.nextInt(4) == 0) {
+                continue;
+            }
+            if (model.robotOf(robot, 2) < 0 && model.account(4) > 0) {
+                if (!same("assign", robot, model.waiting(random.nextInt(model.account(4))))) {
+                    return false;
+                }
+            }
+            int goal = usefulGoal(robot);
+            if (model.robotOf(robot, 3) == 0 && (!same("arrivalAgain", robot, goal) || !same("plan", robot, goal))) {
+                return false;
+            }
+        }
+        return same("pass", 1 + random.nextInt(random.nextInt(3) == 0 ? 9 : 2));
+    }
+
+    /** A plan is cancelled, and its cell asked for, when another robot has come to reserve it. */
+    private boolean crowd() {
+        for (int robot = 0; robot < model.account(2); robot++) {
+            if (!same("plan", robot, cell()) || !same("reserved", cell(), random.nextInt(9))) {
+                return false;
+            }
+        }
+        int robot = robot();
+        return same("arrival", robot, cell()) && same("arrivalAgain", robot(), cell()) && same("cancel", robot())
+            && same("close", cell()) && same("reason", true);
+    }
+
     private boolean step() {
         int kind = random.nextInt(100);
+        if (isBusy && random.nextInt(6) == 0) {
+            return random.nextInt(3) > 0 ? work() : crowd();
+        }
         if (kind < 8) {
             return same("add", cell(), random.nextInt(15) == 0 ? wild() : random.nextInt(100));
         }
         if (kind < 12) {
-            return same("order", random.nextInt(20) == 0 ? wild() : random.nextInt(12) * 9, cell(), lineOrNone(), lineOrNone());
+            return same("order", random.nextInt(20) == 0 ? wild() : random.nextInt(12) * 9, floor(), lineOrNone(), lineOrNone());
         }
         if (kind < 17) {
             return same("assign", robot(), order());
@@ -185,7 +256,7 @@ public final class ModelTest {
                 return same("close", cell());
             case 5:
             case 6:
-                return same("open", cell());
+                return same("open", closedCell());
             case 7:
             case 8:
                 return same("set", oneOf(3), random.nextInt(9) == 0 ? wild() : 1 + random.nextInt(random.nextInt(2) == 0 ? 3 : 31));
