@@ -8,6 +8,7 @@ import com.sun.source.tree.LambdaExpressionTree;
 import com.sun.source.tree.LiteralTree;
 import com.sun.source.tree.MemberReferenceTree;
 import com.sun.source.tree.MemberSelectTree;
+import com.sun.source.tree.MethodInvocationTree;
 import com.sun.source.tree.MethodTree;
 import com.sun.source.tree.NewArrayTree;
 import com.sun.source.tree.NewClassTree;
@@ -17,12 +18,17 @@ import com.sun.source.tree.Tree;
 import com.sun.source.tree.TryTree;
 import com.sun.source.tree.VariableTree;
 import com.sun.source.util.JavacTask;
+import com.sun.source.util.TreePathScanner;
 import com.sun.source.util.TreeScanner;
 import com.sun.source.util.Trees;
 import java.nio.file.Files;
 import java.nio.file.Path;
+import java.util.LinkedHashMap;
+import java.util.LinkedHashSet;
 import java.util.List;
+import java.util.Map;
 import java.util.Set;
+import javax.lang.model.element.Element;
 import javax.lang.model.element.Modifier;
 import javax.tools.JavaCompiler;
 import javax.tools.StandardJavaFileManager;
@@ -36,6 +42,9 @@ public final class LanguageTest {
         "IndexOutOfBoundsException", "ArithmeticException", "UnsupportedOperationException", "NoSuchElementException");
     private static final Set<String> STATIC_CALLS = Set.of("min", "max", "fill", "arraycopy", "kindOf", "length");
 
+    private static final int CALLS_DEEP = 8;
+    private static final int FACE_AT_LEAST = 37;
+
     private static int wrong;
     private static int right;
 
@@ -48,6 +57,14 @@ public final class LanguageTest {
             Rules rules = new Rules(unit, Trees.instance(task));
             rules.scan(unit, null);
             check("some twelve classes at most", rules.classes <= 12);
+            task.analyze();
+            Calls calls = new Calls(Trees.instance(task));
+            calls.scan(unit, null);
+            check("calls are found", calls.made.size() > FACE_AT_LEAST);
+            for (Element method : calls.made.keySet()) {
+                int depth = calls.depth(method, 1);
+                check(method + " goes at most eight deep, and in no circle: " + depth, depth <= CALLS_DEEP);
+            }
         }
         for (byte b : Files.readAllBytes(SOURCE)) {
             if (b < 0) {
@@ -64,6 +81,55 @@ public final class LanguageTest {
         } else {
             wrong++;
             System.out.println("not so: " + what);
+        }
+    }
+
+    /** Which method calls which; the library's own are left out. */
+    private static final class Calls extends TreePathScanner<Void, Void> {
+        private final Map<Element, Set<Element>> made = new LinkedHashMap<>();
+        private final Trees trees;
+        private Element caller;
+
+        Calls(Trees trees) {
+            this.trees = trees;
+        }
+
+        @Override
+        public Void visitMethod(MethodTree tree, Void none) {
+            caller = trees.getElement(getCurrentPath());
+            made.computeIfAbsent(caller, key -> new LinkedHashSet<>());
+            super.visitMethod(tree, none);
+            caller = null;
+            return null;
+        }
+
+        @Override
+        public Void visitMethodInvocation(MethodInvocationTree tree, Void none) {
+            note();
+            return super.visitMethodInvocation(tree, none);
+        }
+
+        @Override
+        public Void visitNewClass(NewClassTree tree, Void none) {
+            note();
+            return super.visitNewClass(tree, none);
+        }
+
+        private void note() {
+            if (caller != null) {
+                made.get(caller).add(trees.getElement(getCurrentPath()));
+            }
+        }
+
+        /** The most calls that stand open at once below the method, itself included; a circle goes too deep. */
+        private int depth(Element method, int open) {
+            int deepest = 1;
+            for (Element called : made.getOrDefault(method, Set.of())) {
+                if (made.containsKey(called) && open <= CALLS_DEEP) {
+                    deepest = Math.max(deepest, 1 + depth(called, open + 1));
+                }
+            }
+            return deepest;
         }
     }
 
